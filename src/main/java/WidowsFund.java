@@ -416,9 +416,20 @@ public final class WidowsFund {
         coins.look(NONE);
         long chest = coins.chestBehind(year);
         int least = coins.leastDue(year * YEAR_DAYS + YEAR_DAYS - 1);
-        int set = coins.bestSet(chest, year, n, Math.max(least, 0));
-        if (set < 0 || what == 0) return set;
-        return least < 0 ? NOT_THERE : trials.stepped(set, DUE, least);
+        int best = NOT_THERE;
+        for (int set = 0; set < 1 << trials.steps; set++) {
+            if (!trials.hasOneEach(set) || best >= 0 && !trials.isBetter(set, best, least)) continue;
+            coins.set = set;
+            boolean kept = true;
+            for (int row = 0; kept && row < trials.rows; row++) {
+                coins.lookByRow(row);
+                kept = coins.shortYear(chest, year, n) < 0;
+            }
+            if (kept) best = set;
+        }
+        coins.set = 0;
+        if (best < 0 || what == 0) return best;
+        return least < 0 ? NOT_THERE : trials.stepped(best, DUE, least);
     }
 
     public long tried(int day, int year) {
@@ -806,24 +817,17 @@ public final class WidowsFund {
             act.sumFrom[place] = act.size;
             if (!readSum(act)) return false;
             act.conditionsFrom[place] = act.size;
-            if (next() == ' ' && !(readAll(" if ") && readConditions(act))) return false;
-            act.conditionsTill[place] = act.size;
-            act.clauses++;
-            return true;
-        }
-
-        private boolean readConditions(Act act) {
-            for (int turn = 0; turn < MAX_TAPE; turn++) {
-                if (!readSum(act)) return false;
+            for (int turn = 0; turn < MAX_TAPE && next() == ' '; turn++) {
+                if (!readAll(turn == 0 ? " if " : " and ") || !readSum(act)) return false;
                 int code = compareCode(next());
                 if (code == NONE) return false;
                 at++;
                 if (!readSum(act)) return false;
                 act.emit(code);
-                if (next() != ' ') return true;
-                if (!readAll(" and ")) return false;
             }
-            return false;
+            act.conditionsTill[place] = act.size;
+            act.clauses++;
+            return true;
         }
 
         private static int compareCode(int b) {
@@ -962,11 +966,16 @@ public final class WidowsFund {
             return number >= 0 && number < count ? acts[number] : null;
         }
 
+        private int dayOf(int number) {
+            Act act = actAt(number);
+            return act == null ? NEVER : act.day;
+        }
+
         void addAct(Act act, int day) {
             if (act == null || count > MAX_ACTS) return;
             act.day = day;
             int place = count;
-            for (; place > 0 && acts[order[place - 1]].day > day; place--) order[place] = order[place - 1];
+            for (; place > 0 && dayOf(order[place - 1]) > day; place--) order[place] = order[place - 1];
             order[place] = count;
             acts[count] = act;
             count++;
@@ -998,12 +1007,13 @@ public final class WidowsFund {
         int ruling(int subject, int day) {
             for (int k = count - 1; k >= 0; k--) {
                 Act act = acts[order[k]];
-                if (act.day > day) continue;
+                if (act == null || act.day > day) continue;
                 for (int place = act.clauses - 1; place >= 0; place--) {
-                    if (!holds(act, place, subject, day)) continue;
+                    if (act.subject[place] != subject || act.outFrom[place] <= day) continue;
+                    if (reckon(act.code, act.conditionsFrom[place], act.conditionsTill[place]) == 0) continue;
                     foundClause = 100 * order[k] + place;
-                    foundValue = clauseValue(act, place);
                     foundDay = act.day;
+                    foundValue = bounded(reckon(act.code, act.sumFrom[place], act.conditionsFrom[place]));
                     return foundValue;
                 }
             }
@@ -1016,24 +1026,19 @@ public final class WidowsFund {
             if (foundClause < 0) return NOT_THERE;
             for (int k = count - 1; k >= 0; k--) {
                 Act act = acts[order[k]];
-                if (act.day != foundDay) continue;
+                if (act == null || act.day != foundDay) continue;
                 for (int place = act.clauses - 1; place >= 0; place--) {
-                    if (holds(act, place, subject, day) && clauseValue(act, place) != foundValue) {
-                        return 100 * order[k] + place;
-                    }
+                    if (act.subject[place] != subject || act.outFrom[place] <= day) continue;
+                    if (reckon(act.code, act.conditionsFrom[place], act.conditionsTill[place]) == 0) continue;
+                    int value = bounded(reckon(act.code, act.sumFrom[place], act.conditionsFrom[place]));
+                    if (value != foundValue) return 100 * order[k] + place;
                 }
             }
             return NOT_THERE;
         }
 
-        private boolean holds(Act act, int place, int subject, int day) {
-            return act.subject[place] == subject && act.outFrom[place] > day
-                    && reckon(act.code, act.conditionsFrom[place], act.conditionsTill[place]) != 0;
-        }
-
-        private int clauseValue(Act act, int place) {
-            int value = reckon(act.code, act.sumFrom[place], act.conditionsFrom[place]);
-            return Math.max(0, Math.min(MAX_COINS, value));
+        private static int bounded(int value) {
+            return value < 0 ? 0 : value > MAX_COINS ? MAX_COINS : value;
         }
 
         /** A sum's number; of conditions 0 if one does not hold, else 1. */
@@ -1067,7 +1072,7 @@ public final class WidowsFund {
             int latest = behind;
             for (int k = 0; k < count; k++) {
                 Act act = acts[k];
-                if (act.begun && act.day > latest && act.day <= upTo) latest = act.day;
+                if (act != null && act.begun && act.day > latest && act.day <= upTo) latest = act.day;
             }
             return latest;
         }
@@ -1077,7 +1082,7 @@ public final class WidowsFund {
             int next = end;
             for (int k = 0; k < count; k++) {
                 Act act = acts[k];
-                if (act.begun && act.day > behind && act.day < next) next = act.day;
+                if (act != null && act.begun && act.day > behind && act.day < next) next = act.day;
             }
             return next;
         }
@@ -1208,6 +1213,14 @@ public final class WidowsFund {
             return true;
         }
 
+        /** Whether by a set, the least due being so much, less is paid, or the same with fewer steps, than by the best. */
+        boolean isBetter(int some, int best, int least) {
+            int dues = stepped(some, DUE, Math.max(0, least));
+            int bestDues = stepped(best, DUE, Math.max(0, least));
+            if (dues != bestDues) return dues < bestDues;
+            return Integer.bitCount(some) < Integer.bitCount(best);
+        }
+
         /** What the rule for a subject comes to by a set of steps. */
         int stepped(int set, int itsSubject, int coins) {
             if (set == 0) return coins;
@@ -1229,7 +1242,7 @@ public final class WidowsFund {
         /** Whether a dead man was a member, or gone and kept, on the day ahead of his death. */
         private final boolean[] kept = new boolean[MAX_PERSONS];
         /** The set of steps that is tried; 0 but in trials. */
-        private int set;
+        int set;
 
         Coins(Book itsBook, Lives itsLives, Laws itsLaws, Loans itsLoans, Trials itsTrials) {
             book = itsBook;
@@ -1464,33 +1477,6 @@ public final class WidowsFund {
                 if (least < 0 || due < least) least = due;
             }
             return least;
-        }
-
-        /** The set of steps that the plan is; NOT_THERE if there is none. */
-        int bestSet(long chest, int year, int n, int least) {
-            int best = NOT_THERE;
-            for (int some = 0; some < 1 << trials.steps; some++) {
-                if (!trials.hasOneEach(some) || best >= 0 && !isBetter(some, best, least)) continue;
-                set = some;
-                if (isKept(chest, year, n)) best = some;
-            }
-            set = 0;
-            return best;
-        }
-
-        private boolean isBetter(int some, int best, int least) {
-            int dues = trials.stepped(some, DUE, least);
-            int bestDues = trials.stepped(best, DUE, least);
-            if (dues != bestDues) return dues < bestDues;
-            return Integer.bitCount(some) < Integer.bitCount(best);
-        }
-
-        private boolean isKept(long chest, int year, int n) {
-            for (int row = 0; row < trials.rows; row++) {
-                lookByRow(row);
-                if (shortYear(chest, year, n) >= 0) return false;
-            }
-            return true;
         }
 
         /** Of a person in a year: 0 dues, 1 rent, 2 sum. */
