@@ -147,6 +147,14 @@ public final class CoinsTest {
         due("grow when he is dead", x.owe(0, 35, -1, 2), 94);
         Check.act(x, "fine=0", 3599);
         due("by the rule of the last day", x.owe(0, 35, -1, 2), 82);
+        WidowsFund z = four();
+        Check.act(z, "due=3;tax=40", 0);
+        z.member(0, 0, 0, 3001);
+        z.wed(0, 2, 3001);
+        z.death(2, 3002);
+        z.wed(0, 3, 3002);
+        due("tax is owed", z.owe(0, 30, -1, 2), 40);
+        due("and dues", z.owe(0, 32, -1, 2), 46);
         WidowsFund y = four();
         Check.act(y, "due=3;fine=99", 0);
         y.member(0, 0, 0, 9900);
@@ -303,7 +311,7 @@ public final class CoinsTest {
         due("to nobody", x.chest(41, -1), 0);
         Check.act(x, "sum=11;age=10", 4099);
         due("sum of the day ahead", x.sum(6, 41, -1), 0);
-        Check.act(x, "age=10", 4100);
+        Check.act(x, "age=10;sum=99", 4100);
         due("sum of the day ahead now", x.sum(6, 41, -1), 11);
         due("chest then", x.chest(99, -1), -11);
         due("chest known by 3", x.chest(99, 3), 0);

@@ -34,10 +34,41 @@ public final class ModelTest {
         both("seat", x.seat(3), m.seat(3));
         int[] births = {500, 800, 1000, 1200, 1500, 1800, 2200};
         for (int i = 0; i < 6; i++) person(i % 2, births[random.nextInt(births.length)] + i);
+        if (run % 3 > 0) startRich();
         for (int call = 0; call < 400; call++) {
             if (random.nextInt(100) < 60) tell();
             else ask();
         }
+    }
+
+    /** Rules for all subjects, three couples with children, and some deaths, so that coins flow from the start. */
+    private void startRich() {
+        String[] laws = {"due=5+rate*7;rent=90+rate*20+years;sum=101+old;tax=30+wives;vacant=7;fine=10;keeps=rate",
+            "due=20-years if rate>0;rent=2*old;sum=77;tax=year;fine=3;keeps=1;age=12",
+            "rent=50 if wives<2;rent=33;due=40;vacant=2;sum=10+rate;late=24;tax=8*rate"};
+        feed(laws[random.nextInt(3)]);
+        int from = 2500 + random.nextInt(600);
+        both("rich act", x.text(from), m.text(from));
+        for (int man = 0; man < 6; man += 2) {
+            int day = 3000 + random.nextInt(300);
+            both("rich member", x.member(man, man / 2, random(4), day), m.member(man, man / 2, drawn, day));
+            both("rich wed", x.wed(man, man + 1, day - 20), m.wed(man, man + 1, day - 20));
+            for (int child = 0; child < 2; child++) {
+                int birth = 2600 + random.nextInt(1200);
+                both("rich child", x.person(child, birth, man, man + 1), m.person(child, birth, man, man + 1));
+            }
+            int end = 3500 + random.nextInt(700);
+            int who = random.nextInt(3) == 0 ? man : man + 1;
+            if (random.nextInt(3) > 0) both("rich death", x.death(who, end), m.death(who, end));
+            if (random.nextInt(3) > 0) both("rich second", x.death(man, end + 50), m.death(man, end + 50));
+        }
+    }
+
+    private int drawn;
+
+    private int random(int n) {
+        drawn = random.nextInt(n);
+        return drawn;
     }
 
     private void both(String call, long got, long want) {
@@ -244,7 +275,9 @@ public final class ModelTest {
             case 6: both("force", x.force(what, 10 + e), m.force(what, 10 + e)); break;
             case 7: case 8: askRules(man, day, e, by); break;
             case 9: case 10:
-                both("owe " + what + by, x.owe(man, year, e, what), m.owe(man, year, e, what));
+                for (int q = 0; q < m.count(0); q++) {
+                    both("owe " + what + " of " + q + by, x.owe(q, year, e, what), m.owe(q, year, e, what));
+                }
                 break;
             case 11: both("vacant" + by, x.vacant(year, e), m.vacant(year, e)); break;
             case 12: case 13:
@@ -263,7 +296,11 @@ public final class ModelTest {
             case 20: both("expect", x.expect(year), m.expect(year)); break;
             case 21: both("worth", x.worth(day, year), m.worth(day, year)); break;
             case 22: both("value" + by, x.value(year, e), m.value(year, e)); break;
-            case 23: both("shortBy", x.shortBy(what - 1, year, man + 1), m.shortBy(what - 1, year, man + 1)); break;
+            case 23:
+                for (int row = -1; row <= m.count(5); row++) {
+                    both("shortBy " + row + by, x.shortBy(row, year, p + 1), m.shortBy(row, year, p + 1));
+                }
+                break;
             case 24: both("plan" + by, x.plan(year, p + 1, what % 2), m.plan(year, p + 1, what % 2)); break;
             case 25:
                 if (m.count(7) == 0) feed(actText());

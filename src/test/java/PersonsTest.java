@@ -13,6 +13,7 @@ public final class PersonsTest {
         goneAndBack();
         strikes();
         fullBook();
+        manyWeddings();
         toldOtherwise();
         kinds();
         kindsByLaws();
@@ -295,6 +296,18 @@ public final class PersonsTest {
         due("paid then", x.owe(0, 21, 150, 3), 50);
     }
 
+    /** Each wedding is told ahead of the ones that were told: on its day nobody is wed yet. */
+    private static void manyWeddings() {
+        WidowsFund x = four();
+        for (int i = 0; i < 200; i++) due("wed", x.wed(0, 2, 9000 - i), i);
+        due("full", x.wed(0, 2, 8000), FULL);
+        due("his", x.live(0, 9999, -1, 3), 200);
+        due("hers", x.live(2, 9999, -1, 3), 200);
+        due("hers then", x.live(2, 8801, -1, 3), 1);
+        due("hers by 7", x.live(2, 9999, 7, 3), 7);
+        due("wed to", x.live(2, 8801, -1, 0), 0);
+    }
+
     /** A wedding ahead of a wedding that was told first: the day counts, not the telling. */
     private static void toldOtherwise() {
         WidowsFund x = four();
@@ -378,6 +391,11 @@ public final class PersonsTest {
         due("gone that keeps", x.as(3, 3600, -1), 4);
         x.out(2, 0, 3599);
         due("keeps is struck out", x.as(3, 3600, -1), 0);
+        WidowsFund z = four();
+        z.member(0, 0, 0, 5200);
+        due("42 is above 40, told first of all", z.as(0, 5200, -1), 2);
+        z.member(1, 1, 0, 5199);
+        due("40 is not above 40", z.as(1, 5200, -1), 1);
         WidowsFund y = four();
         y.person(1, 3000, 1, -1);
         y.member(1, 0, 1, 3000);

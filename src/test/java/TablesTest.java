@@ -159,6 +159,14 @@ public final class TablesTest {
         x.death(0, 4199);
         due("a widow", x.value(41, -1), x.chest(41, -1) + x.worth(10, 21) - x.worth(401, 21));
         due("her chest", x.chest(41, -1), 777 - 4);
+        WidowsFund y = new WidowsFund();
+        y.seat(1);
+        y.person(1, 2000, -1, -1);
+        y.person(0, 1000, -1, -1);
+        Check.act(y, "rent=500", 0);
+        y.member(1, 0, 0, 3000);
+        y.wed(1, 0, 3000);
+        due("a wife with number 0", y.value(30, -1), y.worth(500, 20) - y.worth(500, 10));
         x.gone(2, false, 4300);
         due("gone", x.value(43, -1), x.chest(43, -1) - x.worth(401, 23));
     }

@@ -102,6 +102,17 @@ public final class TrialsTest {
         x.death(0, 5000);
         due("dead already", x.shortBy(0, 48, 20), 51);
         due("dead already, no row", x.shortBy(-1, 48, 20), 51);
+        WidowsFund y = new WidowsFund();
+        y.seat(1);
+        y.person(0, 0, -1, -1);
+        y.person(1, 0, -1, -1);
+        y.member(0, 0, 0, 30);
+        y.wed(0, 1, 30);
+        Check.act(y, "rent=5;due=1", 0);
+        y.row();
+        due("an empty row", y.shortBy(0, 0, 20), -5);
+        y.rows(0, 0, 0);
+        due("in the first year", y.shortBy(0, 0, 20), 1);
     }
 
     private static void paysAsTheyCome() {
@@ -149,6 +160,7 @@ public final class TrialsTest {
         due("year -1", x.plan(-1, 5, 0), BAD);
         due("n 0", x.plan(5, 0, 1), BAD);
         due("n 21", x.plan(5, 21, 1), BAD);
+        due("n 20", x.plan(5, 20, 0), 0);
         due("no steps, no rows", x.plan(50, 5, 0), 0);
         due("its dues", x.plan(50, 5, 1), 0);
         due("without members", x.plan(20, 5, 0), 0);
@@ -288,6 +300,14 @@ public final class TrialsTest {
         due("a rent of a man", x.check(40, -1), 7);
         x.told(1, 0, 1);
         due("dues of a woman", x.check(40, -1), 3);
+        WidowsFund y = new WidowsFund();
+        for (int p = 0; p < 24; p++) y.person(p & 1, p, -1, -1);
+        y.begin(7);
+        due("of 24", y.check(40, -1), 100);
+        due("judged", y.judge(40, -1), 1);
+        due("right", y.check(40, -1), -5);
+        y.told(23, 2, 4);
+        due("the last one", y.check(40, -1), 71);
     }
 
     private static void judged() {
