@@ -2,10 +2,14 @@ import java.util.Random;
 
 /** Runs of calls from a fixed seed, mostly sensible and some wrong, on the class and on PlainModel: both answer alike. */
 public final class ModelTest {
+    /** The document promises nothing behind the 512th call; a round takes 50 at most. */
+    private static final int LAST_CALL = 512, ROUND = 50;
+
     private final Random random;
     private final WidowsFund x = new WidowsFund();
     private final PlainModel m = new PlainModel();
     private final int run;
+    private int calls;
 
     private ModelTest(int run) {
         this.run = run;
@@ -13,9 +17,9 @@ public final class ModelTest {
     }
 
     public static void main(String[] args) {
-        int runs = args.length > 1 ? Integer.parseInt(args[1]) : 120;
+        int runs = args.length > 1 ? Integer.parseInt(args[1]) : 300;
         for (int run = 0; run < runs; run++) new ModelTest(run).play();
-        faults(runs * 20);
+        faults(runs * 10);
         Check.end("ModelTest");
     }
 
@@ -35,9 +39,12 @@ public final class ModelTest {
         int[] births = {500, 800, 1000, 1200, 1500, 1800, 2200};
         for (int i = 0; i < 6; i++) person(i % 2, births[random.nextInt(births.length)] + i);
         if (run % 3 > 0) startRich();
-        for (int call = 0; call < 400; call++) {
+        while (calls <= LAST_CALL - ROUND) {
+            int ahead = calls;
             if (random.nextInt(100) < 60) tell();
             else ask();
+            if (calls == ahead) calls++;
+            if (calls > ahead + ROUND) Check.due("calls of a round", calls - ahead, ROUND);
         }
     }
 
@@ -72,6 +79,7 @@ public final class ModelTest {
     }
 
     private void both(String call, long got, long want) {
+        calls++;
         Check.due("run " + run + " " + call, got, want);
     }
 
@@ -96,12 +104,19 @@ public final class ModelTest {
         return p;
     }
 
-    /** Days crowd around the years 30 to 45, so that lives meet. */
+    /** Days crowd around the years 30 to 45, so that lives meet, and around what was told, where things change. */
     private int day() {
-        int kind = random.nextInt(10);
-        if (kind < 7) return odd(3000 + random.nextInt(1500));
-        if (kind < 9) return odd(100 * (30 + random.nextInt(15)) + (random.nextBoolean() ? 0 : 99));
+        int kind = random.nextInt(20);
+        if (kind < 9) return odd(3000 + random.nextInt(1500));
+        if (kind < 12) return odd(100 * (30 + random.nextInt(15)) + (random.nextBoolean() ? 0 : 99));
+        if (kind < 16) return near(m.known(random.nextInt(Math.max(1, m.count(1))), 3));
+        if (kind < 18) return near(m.birth(random.nextInt(Math.max(1, m.count(0))), 1) + 100 * random.nextInt(45));
+        if (kind < 19) return near(m.force(random.nextInt(8), 0));
         return odd(random.nextInt(10000));
+    }
+
+    private int near(int day) {
+        return odd(Math.max(0, Math.min(9999, day + random.nextInt(3) - 1)));
     }
 
     private int year() {
@@ -109,7 +124,7 @@ public final class ModelTest {
     }
 
     private int e() {
-        return odd(random.nextInt(3) > 0 ? -1 : random.nextInt(m.count(1) + 1));
+        return odd(random.nextInt(3) > 0 ? -1 : random.nextInt(m.count(1) + 2));
     }
 
     private int subject() {

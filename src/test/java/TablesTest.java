@@ -95,6 +95,7 @@ public final class TablesTest {
         due("age 99", x.expect(99), 0);
         due("age 98", x.expect(98), 892000);
         for (int age = 0; age < 100; age += 9) {
+            x = new WidowsFund();
             int all = 0;
             for (int n = 1; age + n <= 99; n++) all += x.alive(age, n);
             due("age " + age, x.expect(age), all);
@@ -123,6 +124,7 @@ public final class TablesTest {
         due("age 99", x.worth(9999, 99), 0);
         due("at 98", x.worth(9999, 98), 9999L * 892000 * 961538 / 1000000000000L);
         for (int age = 0; age < 100; age += 7) {
+            x = new WidowsFund();
             long all = 0;
             long v = 1000000;
             for (int n = 1; age + n <= 99; n++) {
