@@ -589,6 +589,9 @@ public final class ActEdgesTest {
         due("the next year", x.rule(4, 0, 3200, -1), 32);
         x.gone(0, false, 3200);
         due("years of one gone", x.rule(1, 0, 3350, -1), 4);
+        x.death(0, 3400);
+        due("years of one dead", x.rule(1, 0, 3450, -1), 5);
+        due("old of one dead: years since his birth", x.rule(2, 0, 3500, -1), 25);
     }
 
     /** Each "(0)": 0 and neither -1 nor below, where there is no RATE, no JOINED, no AGE, no WEDDING. */

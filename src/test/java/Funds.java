@@ -23,7 +23,7 @@ final class Funds {
         return x;
     }
 
-    /** Of everything some, in 61 calls: ten persons, 14 entries, two acts, loans, rows and steps, and an act on the tape. */
+    /** Of everything some, in 55 calls: ten persons, 14 entries, two acts, loans, rows and steps, and an act on the tape. */
     static WidowsFund some() {
         WidowsFund x = new WidowsFund();
         x.seat(4);
@@ -71,7 +71,7 @@ final class Funds {
         return x;
     }
 
-    /** Of everything as much as there can be, in 328 calls: 24 persons, 200 entries, 8 acts, 12 loans, 4 rows, 4 steps, 200 bytes. */
+    /** Of everything as much as there can be, in 294 calls: 24 persons, 200 entries, 8 acts, 12 loans, 4 rows, 4 steps, 200 bytes. */
     static WidowsFund full() {
         WidowsFund x = new WidowsFund();
         x.seat(10);
@@ -101,7 +101,7 @@ final class Funds {
         }
     }
 
-    /** All that some() shows, in 370 calls; the last ones of these change it. */
+    /** All that some() shows, in 309 calls; the last ones of these change it. */
     static long[] pictureOfSome(WidowsFund x) {
         Answers a = new Answers();
         for (int what = 0; what < 9; what++) a.add(x.count(what));
@@ -144,7 +144,7 @@ final class Funds {
         return java.util.Arrays.copyOf(a.all, a.many);
     }
 
-    /** What full() shows, in 170 calls; the last ones of these change it. */
+    /** What full() shows, in 127 calls; the last ones of these change it. */
     static long[] pictureOfFull(WidowsFund x) {
         Answers a = new Answers();
         for (int what = 0; what < 9; what++) a.add(x.count(what));

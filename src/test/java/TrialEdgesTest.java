@@ -450,6 +450,17 @@ public final class TrialEdgesTest {
         due("y itself", z.plan(50, 1, 0), -5);
         z.begin(1);
         due("behind 99", z.plan(99, 20, 0), 0);
+        WidowsFund w = family("rent=100");
+        w.death(0, 5000);
+        w.begin(100);
+        w.step(1, 0);
+        due("short by none", w.shortBy(-1, 50, 5), 51);
+        due("by none is no row", w.plan(50, 5, 0), 0);
+        w.row();
+        w.rows(0, 1, 50);
+        due("nor is it beside a row that is not short", w.plan(50, 5, 0), 0);
+        w.row();
+        due("an empty row is as by none", w.plan(50, 5, 0), 1);
     }
 
     /** "The DUES of the MEMBER who pays least then are least". */

@@ -18,6 +18,8 @@ public final class WildTest {
         face.sort((a, b) -> a.toString().compareTo(b.toString()));
         for (int run = 0; run < 400; run++) play(face, new Random(31L * run + 7));
         fullest();
+        theLastCall();
+        room();
         Check.end("WildTest");
     }
 
@@ -62,6 +64,32 @@ public final class WildTest {
         long perCall = spent / (6 * 15 * 4 * 1000);
         System.out.println("dearest calls take " + perCall + " microseconds each, answers together " + all);
         Check.due("the dearest calls end soon", perCall < 200000 ? 1 : 0, 1);
+    }
+
+    /** "An object is used for at most 512 calls": the 512th answers as the first did, and what was told ahead holds. */
+    private static void theLastCall() {
+        WidowsFund x = Funds.some();
+        long chest = x.chest(99, -1);
+        for (int call = 56; call < 510; call++) x.value(call % 100, call % 15);
+        x.pay(0, 5, 9999);
+        Check.due("the 512th call", x.chest(99, -1), chest + 5);
+    }
+
+    /** All calls of a run live in one room: what an object and 512 calls of it make is counted in bytes, where the machine counts. */
+    private static void room() {
+        com.sun.management.ThreadMXBean counter = (com.sun.management.ThreadMXBean) java.lang.management.ManagementFactory.getThreadMXBean();
+        long id = Thread.currentThread().getId();
+        long start = counter.getThreadAllocatedBytes(id);
+        WidowsFund x = fullFund();
+        for (int i = 0; i < 16; i++) {
+            x.plan(40 + i, 20, 1);
+            x.shortBy(i % 5 - 1, 40 + i, 20);
+            x.judge(90, -1);
+            x.tried(5, 5);
+        }
+        long made = counter.getThreadAllocatedBytes(id) - start;
+        System.out.println("an object and its calls make " + made + " bytes");
+        Check.due("an object and its calls make few bytes", made < 400000 ? 1 : 0, 1);
     }
 
     /** In 440 calls. */
