@@ -609,6 +609,9 @@ public final class ActEdgesTest {
         due("0 years", x.rule(1, 1, 5099, -1), 5);
         x.wed(1, 2, 5000);
         due("wed far behind", x.rule(3, 1, 3000, -1), 5);
+        x.wed(1, 3, 4000);
+        due("wed is not joined", x.rule(1, 1, 5099, -1), 5);
+        due("nor ahead of it", x.rule(1, 1, 4500, -1), 5);
         WidowsFund y = Funds.four();
         Check.act(y, "due=1 if old<0;due=2 if old=0;due=3 if old>0", 0);
         due("old on day 0", y.rule(0, 0, 0, -1), 2);
@@ -674,6 +677,15 @@ public final class ActEdgesTest {
         due("a later act alone", x.quarrel(0, -1, 501, -1), -5);
         due("the day ahead", x.quarrel(0, -1, 500, -1), 501);
         due("none for none", x.quarrel(3, -1, 500, -1), -5);
+        x.quarrel(0, -1, 500, -1);
+        due("nor ahead of all", x.quarrel(0, -1, 498, -1), -5);
+        WidowsFund y = new WidowsFund();
+        Check.act(y, "late=5;late=6;age=7 if year=9;age=8 if year=9", 300);
+        due("late", y.quarrel(8, -1, 300, -1), 0);
+        due("none holds, though others of that day quarrel", y.quarrel(7, -1, 300, -1), -5);
+        due("both hold", y.quarrel(7, -1, 900, -1), 2);
+        due("none again", y.quarrel(7, -1, 1000, -1), -5);
+        due("none ahead of its day", y.quarrel(8, -1, 299, -1), -5);
     }
 
     /** "That holds too": in force, not STRUCK OUT, its CONDITIONS. */

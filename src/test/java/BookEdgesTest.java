@@ -14,6 +14,7 @@ public final class BookEdgesTest {
         seatsFrom0To10();
         aJoinedWasTold();
         entriesFrom0To199();
+        weddingsFrom0To199();
         struckTakesAPlace();
         byTheFirstEntries();
         diesAsToldLast();
@@ -179,6 +180,8 @@ public final class BookEdgesTest {
         due("count", x.count(0), 24);
         due("the last one's birth", x.birth(23, 1), 9000);
         due("the last one's father", x.birth(23, 2), 22);
+        due("the last one's sex", x.birth(23, 0), 1);
+        due("a man's sex", x.birth(22, 0), 0);
         due("the last one lives", x.as(23, 9000, -1), 0);
         due("no 24", x.birth(24, 0), NONE);
         due("24 lives not", x.as(24, 9000, -1), NONE);
@@ -270,6 +273,21 @@ public final class BookEdgesTest {
         due("the last one's day", x.known(199, 3), 5000);
         due("no 200", x.known(200, 0), NONE);
         due("none dies", x.live(0, 5000, -1, 5), 10000);
+    }
+
+    /** 200 WEDDINGS: each told for the day ahead of all that were told, when neither is wed yet. */
+    private static void weddingsFrom0To199() {
+        WidowsFund x = Funds.four();
+        for (int i = 0; i < 200; i++) due("wedding " + i, x.wed(0, 2, 9999 - i), i);
+        due("one more", x.wed(0, 2, 5000), FULL);
+        due("his", x.live(0, 9999, -1, 3), 200);
+        due("hers", x.live(2, 9999, -1, 3), 200);
+        due("hers on the day of the last told", x.live(2, 9800, -1, 3), 1);
+        due("hers the day ahead", x.live(2, 9799, -1, 3), 0);
+        due("hers by 199", x.live(2, 9999, 199, 3), 199);
+        due("another woman's", x.live(3, 9999, -1, 3), 0);
+        due("wed", x.live(2, 9999, -1, 0), 0);
+        due("no tax, no member", x.owe(0, 99, -1, 1), 0);
     }
 
     /** STRUCK is an entry as all are: it takes the last place, and behind it there is none. */
@@ -450,6 +468,10 @@ public final class BookEdgesTest {
         due("no rate of who never joined", x.live(1, 9999, -1, 2), NONE);
         due("none of a woman", x.live(2, 9999, -1, 1), NONE);
         due("no rate of a woman", x.live(2, 9999, -1, 2), NONE);
+        x.strike(0);
+        due("a RATE alone, but he never joined", x.live(0, 3500, -1, 2), NONE);
+        due("nor has he a seat", x.live(0, 3500, -1, 1), NONE);
+        due("by 4 he joined", x.live(0, 3500, 4, 2), 2);
     }
 
     /** A JOINED told later for a day ahead: from its day to the next one he has that seat and that rate. */

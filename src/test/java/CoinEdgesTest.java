@@ -630,6 +630,12 @@ public final class CoinEdgesTest {
         due("17", x.sum(1, 47, -1), 20);
         x.death(0, 4800);
         due("no death behind death", x.sum(1, 48, -1), 0);
+        WidowsFund z = father("sum=60");
+        z.death(0, 5050);
+        due("20", z.sum(1, 50, -1), 0);
+        due("19", z.sum(2, 50, -1), 0);
+        due("18 and a half", z.sum(3, 50, -1), 0);
+        due("to nobody", z.chest(50, -1), 0);
         WidowsFund y = father("sum=60");
         y.death(0, 4800);
         due("18", y.sum(1, 48, -1), 0);

@@ -398,6 +398,14 @@ public final class TableEdgesTest {
         Check.act(z, "rent=500", 0);
         z.wed(0, 2, 3000);
         due("wed, but no member", z.value(30, -1), 0);
+        WidowsFund w = new WidowsFund();
+        w.seat(1);
+        w.person(1, 1200, -1, -1);
+        w.person(0, 1000, -1, -1);
+        Check.act(w, "rent=500", 0);
+        w.member(1, 0, 0, 3000);
+        w.wed(1, 0, 3000);
+        due("a wife whose number is 0", w.value(30, -1), -more);
     }
 
     /** "VALUE behind YEAR y by e: CHEST, and ..". */

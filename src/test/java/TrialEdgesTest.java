@@ -34,6 +34,7 @@ public final class TrialEdgesTest {
         checkedInOrder();
         checkedByYearAndE();
         judgedNumbersThatChanged();
+        judgedOfAll();
         judgedBeyondWhatCanBeTold();
         countsOfAll();
         Check.end("TrialEdgesTest");
@@ -694,6 +695,15 @@ public final class TrialEdgesTest {
         due("the tape is free", Check.act(x, "due=1", 0), FULL);
         due("and stays then", x.count(7), 5);
         due("for a trial", x.tried(0, 20), 21);
+        WidowsFund z = family("rent=100");
+        for (int i = 1; i < 8; i++) Check.act(z, "begun;rent=" + (100 - 10 * i), 3100 * i % 9999);
+        z.death(0, 4000);
+        long without = z.chest(99, -1);
+        Check.feed(z, "begun;rent=1");
+        due("a ninth for rents that began", z.tried(4000, 41), -2);
+        Check.feed(z, "begun;rent=1");
+        due("on the last day", z.tried(9999, 98), z.chest(98, -1));
+        due("the eight are as before", z.chest(99, -1), without);
         WidowsFund y = family("vacant=1");
         Check.feed(y, "vacant=3");
         y.tried(50, 20);
@@ -826,6 +836,30 @@ public final class TrialEdgesTest {
         x.told(3, 2, 7);
         due("what was told wrong of another", x.judge(40, -1), 2);
         due("is 0 then", x.told(3, 1, 0) + x.told(3, 2, 0), 0);
+    }
+
+    /** Each of 24 persons has three numbers, and the chest one: 73 at most. */
+    private static void judgedOfAll() {
+        WidowsFund x = new WidowsFund();
+        for (int p = 0; p < 24; p++) x.person(p % 2, 100 + p, -1, -1);
+        for (int p = 0; p < 24; p++) for (int what = 0; what < 3; what++) x.told(p, what, 1 + p);
+        x.told(-1, 0, 77);
+        due("all of them", x.judge(40, -1), 73);
+        due("right", x.check(40, -1), -5);
+        due("none", x.judge(41, -1), 0);
+        x.told(23, 2, 5);
+        due("the last sum", x.judge(40, -1), 1);
+        x.told(0, 0, 5);
+        x.told(-1, 0, 5);
+        due("the first dues and the chest", x.judge(40, -1), 2);
+        for (int p = 0; p < 24; p++) for (int what = 0; what < 3; what++) due("told", x.told(p, what, 9), 0);
+        due("the chest", x.told(-1, 0, 9), 0);
+        WidowsFund y = new WidowsFund();
+        y.person(0, 100, -1, -1);
+        y.told(0, 2, 5);
+        due("of one person", y.judge(40, -1), 1);
+        y.person(0, 100, -1, -1);
+        due("of one that came later", y.judge(40, -1), 0);
     }
 
     /** What the year comes to may be more than can be told. */

@@ -1,3 +1,5 @@
+import java.lang.management.ManagementFactory;
+import java.lang.management.ThreadMXBean;
 import java.lang.reflect.Method;
 import java.util.ArrayList;
 import java.util.List;
@@ -77,7 +79,8 @@ public final class WildTest {
 
     /** All calls of a run live in one room: what an object and 512 calls of it make is counted in bytes, where the machine counts. */
     private static void room() {
-        com.sun.management.ThreadMXBean counter = (com.sun.management.ThreadMXBean) java.lang.management.ManagementFactory.getThreadMXBean();
+        ThreadMXBean threads = ManagementFactory.getThreadMXBean();
+        if (!(threads instanceof com.sun.management.ThreadMXBean counter)) return;
         long id = Thread.currentThread().getId();
         long start = counter.getThreadAllocatedBytes(id);
         WidowsFund x = fullFund();
