@@ -440,6 +440,8 @@ public final class CoinEdgesTest {
         due("one of the day ahead is no later one", z.widow(2, 4000, -1), 30);
         Check.act(z, "rent=9", 3999);
         due("it gives way as all acts do", z.widow(2, 4000, -1), 9);
+        Check.act(z, "begun;rent=8", 4000);
+        due("one of the day of death is later than the day ahead", z.widow(2, 4000, -1), 8);
     }
 
     /** "By ACTS as they are on the DAY of the latest such one". */

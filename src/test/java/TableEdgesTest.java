@@ -274,6 +274,11 @@ public final class TableEdgesTest {
         due("0.999", x.worth(1, 98), 0);
         due("1.998", x.worth(2, 98), 1);
         due("1.999", x.worth(1, 97), 1);
+        WidowsFund y = new WidowsFund();
+        y.interest(20);
+        due("hardly less than 30151", y.worth(9230, 68), 30150);
+        y.interest(0);
+        due("just 8697", y.worth(9750, 98), 8697);
     }
 
     /** "WORTH of COINS yearly at an AGE: over n 1, 2, ..": nothing for the year itself. */
